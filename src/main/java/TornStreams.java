@@ -650,7 +650,7 @@ public final class TornStreams {
         }
 
         void add(byte[] source, int from, int length, int start) {
-            if (count >= starts.length) {
+            if (isFull() || length < 0 || length > TEXT_LENGTH || from < 0 || from > source.length - length) {
                 return;
             }
             put(count, source, from, length, start);

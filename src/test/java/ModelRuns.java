@@ -20,7 +20,7 @@ public final class ModelRuns {
     }
 
     private static final class Run {
-        private static final String[] TEXTS = {"ab", "abc ", "abAB", "ab%61", "%6124ab", "ab-. ", "abcdefAC%4610-. x"};
+        private static final String[] TEXTS = {"ab", "abc ", "abAB", "ab%61", "%6124ab", "ab-. ", "abcdefAC%469120-. x"};
         private static final int[] FAR = {Integer.MIN_VALUE, Integer.MAX_VALUE, -1, -2, 6, 40, 41, 100, 1000, 1101, 1 << 20};
 
         private final int number;

@@ -296,6 +296,7 @@ public final class PromiseRuns {
         int before = x.told(7) + x.told(8);
         segment(x, 24, 0, "x");
         due("forgotten with what it holds", x.told(7) + x.told(8), before);
+        due("the new one holds nothing of it", x.property(24, 14), 1);
         segment(x, 5, 0, "x");
         properties(x, 5, 1, 0, 0, 0, 2, 10, 0, 1, 0, 1, 0, 0, 0, 0, 1, 0, 0, 1);
     }
@@ -365,6 +366,14 @@ public final class PromiseRuns {
         properties(x, 1, 4, 1, 1);
         due("gap from 4 to 5", segment(x, 1, 7, "x"), 1);
         latest(x, 0, 1, 0, NONE, 6);
+        // As many gaps as there can be pieces.
+        x = with("a");
+        x.set(2, 5);
+        for (int i = 1; i <= 5; i++) {
+            due("five pieces", segment(x, 1, 2 * i, "a"), 0);
+        }
+        due("six gaps", segment(x, 1, 20, "abcabc"), 7);
+        properties(x, 1, 26, 0, 0, 0, 0, 5, 0, 1, 0, 6, 0, 0, 6, 15, 11, 7, 0, 6);
     }
 
     private static void segmentReading() {
@@ -400,6 +409,9 @@ public final class PromiseRuns {
         latest(x, 0, 2, 1, 3, 4);
         latest(x, 1, 2, 0, NONE, 3);
         latest(x, 2, 2, 1, 2, 3);
+        segment(x, 4, 0, "xxx");
+        due("a gap of one byte, farther on", segment(x, 4, 4, "cc"), 2);
+        latest(x, 0, 4, 1, 5, 6);
     }
 
     private static String characters(TornStreams x, int key) {
@@ -426,8 +438,12 @@ public final class PromiseRuns {
 
     private static void segmentNormalising() {
         normalised(0, "A%41- -.", "A%41- -.", 0);
+        normalised(0, "a  b..--", "a  b..--", 0);
+        normalised(11, "a  b", "a  b", 0);
         normalised(1, "@AZ[%41", "@az[%41", 0);
         normalised(2, "%41%c1%61", "AAa", 0);
+        normalised(2, "%39%59%9a%:9", "9Y\u001a%:9", 0);
+        normalised(2, "%@%G%`%/", "%@%G%`%/", 0);
         normalised(2, "%FF%00%2F", "\u007f\u0000/", 0);
         normalised(2, "%g%4g%:", "%g%4g%:", 0);
         normalised(2, "%%41%4%4", "%A%4", 2);
@@ -464,6 +480,7 @@ public final class PromiseRuns {
     }
 
     private static void finish() {
+        finishRich();
         TornStreams x = with("f", "a");
         due("finish(-1)", x.finish(-1), BAD);
         due("finish(100)", x.finish(100), BAD);
@@ -489,6 +506,46 @@ public final class PromiseRuns {
         due("the percent sign is read before the digit", x.finish(1), 0);
         x.set(1, 0);
         due("without it", segment(x, 1, 3, "f "), 1);
+    }
+
+    // A flow that begins has nothing of one that was there before.
+    private static void finishRich() {
+        TornStreams x = rich();
+        x.finish(1);
+        segment(x, 1, 5, " ");
+        properties(x, 1, 0, 1, 1, 2, 6, 3, 0, 1, 0, 1, 0, 0, 0, 0, 0, 0, 0, 1);
+        segment(x, 1, 4, " ");
+        due("possible of a new flow", x.possible(1), 1);
+        due("nothing read yet", x.read(1, 0), NONE);
+        x.set(2, 40);
+        x.finish(2);
+        segment(x, 2, 0, "a  ");
+        due("one blank", x.property(2, 14), 2);
+        x.finish(2);
+        segment(x, 2, 0, "  b");
+        due("the first blank is not dropped", x.property(2, 14), 2);
+        segment(x, 2, 3, "%");
+        x.finish(2);
+        segment(x, 2, 0, "61");
+        due("nothing is held", x.property(2, 14), 2);
+    }
+
+    // Flow 1 has pieces, a log, held bytes, conflicts, gaps, old segments and finds of both kinds.
+    private static TornStreams rich() {
+        TornStreams x = with("ab", "b", "bab");
+        x.set(0, 2);
+        x.set(1, 6);
+        x.set(2, 3);
+        segment(x, 1, 0, "ab");
+        segment(x, 1, 0, "x");
+        segment(x, 1, 5, "bxa");
+        segment(x, 1, 6, "yb ");
+        segment(x, 1, 9, "b %6");
+        segment(x, 1, 15, "1");
+        segment(x, 2, 0, "b ");
+        segment(x, 2, 4, "abab");
+        properties(x, 1, 13, 1, 1, 2, 6, 3, 0, 1, 2, 6, 1, 2, 1, 3, 8, 4, 2, 6);
+        return x;
     }
 
     private static void flow() {
@@ -567,6 +624,7 @@ public final class PromiseRuns {
         segment(x, 1, 2, "abc");
         due("delivered by a gap", x.property(1, 0), 5);
         due("byteAt(1, 4)", x.byteAt(1, 4), NONE);
+        due("possible(1) behind a gap, without words", x.possible(1), 1);
     }
 
     private static void possible() {
@@ -740,6 +798,14 @@ public final class PromiseRuns {
         x.set(1, 2);
         segment(x, 1, 0, "%a");
         due("what is held stays held", x.replay(1, 0), 0);
+        x = with("ab");
+        segment(x, 1, 0, "a");
+        segment(x, 1, 1, "b");
+        x.finish(1);
+        segment(x, 1, 0, "a");
+        due("the log of a flow before does not count", x.replay(1, 0), 0);
+        segment(x, 1, 1, "b");
+        due("its own does", x.replay(1, 0), 1);
     }
 
     private static void evasions() {
@@ -756,6 +822,12 @@ public final class PromiseRuns {
         due("nothing changes", x.digest(), before);
         segment(x, 1, 0, "abcq");
         due("found by each policy", x.evasions(1), 0);
+        x = with("ab", "yb", "yy", "-y");
+        segment(x, 1, 2, "b");
+        segment(x, 1, 1, "yy");
+        segment(x, 1, 0, "-");
+        due("replay(1, 0)", x.replay(1, 0), 2);
+        due("by policy 0 alone, by all others", x.evasions(1), 6);
     }
 
     private static void nearest() {
@@ -831,6 +903,84 @@ public final class PromiseRuns {
         x.segment(100, 0);
         x.finish(50);
         due("errors are not recorded", x.told(10), 0);
+        undoForgotten();
+        x = new TornStreams();
+        x.set(1, 4);
+        segment(x, 1, 0, " ");
+        segment(x, 1, 1, "a");
+        x.undo();
+        segment(x, 1, 1, " ");
+        due("the blank before is known again", x.property(1, 14), 1);
+        undoRich();
+    }
+
+    // Each of seven segments begins a flow; the last three push one out.
+    private static void undoForgotten() {
+        TornStreams x = new TornStreams();
+        x.type('a');
+        for (int key = 0; key < 7; key++) {
+            due("a new flow", x.segment(key, 0), 0);
+        }
+        for (int flows = 6; flows >= 3; flows--) {
+            due("undo()", x.undo(), flows - 3);
+            due("told(9)", x.told(9), Math.max(0, flows - 4));
+            int first = Math.max(0, flows - 4);
+            for (int i = 0; i < 4; i++) {
+                due("flow(" + i + ")", x.flow(i), first + i < flows ? first + i : NONE);
+            }
+        }
+        due("undo()", x.undo(), STATE);
+        due("forgets none", x.segment(9, 0), 0);
+        due("flow(0)", x.flow(0), 0);
+        due("told(9)", x.told(9), 0);
+    }
+
+    private static int act(TornStreams x, int i) {
+        switch (i) {
+            case 0: return x.segment(1, 14);
+            case 1: return x.segment(1, 13);
+            case 2: return x.segment(2, 8);
+            case 3: return x.segment(1, 0);
+            case 4: return x.segment(9, 3);
+            case 5: return x.finish(1);
+            case 6: return x.finish(2);
+            case 7: return x.define(5);
+            case 8: return x.forget(1);
+            default: return x.set(0, 3);
+        }
+    }
+
+    // Each act behind each other one, twice, with a return between.
+    private static void undoRich() {
+        for (int i = 0; i < 10; i++) {
+            for (int j = 0; j < 10; j++) {
+                TornStreams x = rich();
+                write(x, "abba");
+                x.set(2, 3);
+                x.set(2, 3);
+                x.undo();
+                x.undo();
+                long start = x.digest();
+                int first = act(x, i);
+                long middle = x.digest();
+                int second = act(x, j);
+                long end = x.digest();
+                if (first < 0 || second < 0) {
+                    continue;
+                }
+                due("undo " + j, x.undo(), 3);
+                due("as before " + j, x.digest(), middle);
+                due("again " + j, act(x, j), second);
+                due("as after " + j, x.digest(), end);
+                due("undo " + j, x.undo(), 3);
+                due("undo " + i, x.undo(), 2);
+                due("as before " + i, x.digest(), start);
+                due("again " + i, act(x, i), first);
+                due("as after " + i, x.digest(), middle);
+                due("again " + j, act(x, j), second);
+                due("as after " + j, x.digest(), end);
+            }
+        }
     }
 
     private static void digest() {
