@@ -1,56 +1,5 @@
 /** The promises of the document one by one, with answers that were worked out by hand. */
-public final class PromiseRuns {
-    private static final int BAD = -1, STATE = -2, FULL = -3, NONE = -9;
-    private static int promise = 0;
-    private static int wrong = 0;
-    private static int calls = 0;
-
-    private static void due(String what, long got, long want) {
-        calls++;
-        if (got != want) {
-            wrong++;
-            System.out.println("promise " + promise + ": " + what + " answered " + got + ", due is " + want);
-        }
-    }
-
-    private static void write(TornStreams x, String s) {
-        x.clear();
-        for (int i = 0; i < s.length(); i++) {
-            due("type '" + s.charAt(i) + "'", x.type(s.charAt(i)), i + 1);
-        }
-    }
-
-    private static int define(TornStreams x, int w, String s) {
-        write(x, s);
-        return x.define(w);
-    }
-
-    private static int segment(TornStreams x, int key, int offset, String s) {
-        write(x, s);
-        return x.segment(key, offset);
-    }
-
-    private static TornStreams with(String... words) {
-        TornStreams x = new TornStreams();
-        for (int w = 0; w < words.length; w++) {
-            define(x, w, words[w]);
-        }
-        return x;
-    }
-
-    private static void properties(TornStreams x, int key, int... want) {
-        for (int what = 0; what < want.length; what++) {
-            due("property(" + key + ", " + what + ")", x.property(key, what), want[what]);
-        }
-    }
-
-    private static void latest(TornStreams x, int i, int key, int word, int first, int end) {
-        due("find(" + i + ", 0)", x.find(i, 0), key);
-        due("find(" + i + ", 1)", x.find(i, 1), word);
-        due("find(" + i + ", 2)", x.find(i, 2), first);
-        due("find(" + i + ", 3)", x.find(i, 3), end);
-    }
-
+public final class PromiseRuns extends Check {
     private static long hashed(long h, long... values) {
         for (long v : values) {
             h = 31 * h + v;
@@ -412,17 +361,6 @@ public final class PromiseRuns {
         segment(x, 4, 0, "xxx");
         due("a gap of one byte, farther on", segment(x, 4, 4, "cc"), 2);
         latest(x, 0, 4, 1, 5, 6);
-    }
-
-    private static String characters(TornStreams x, int key) {
-        StringBuilder s = new StringBuilder();
-        for (int i = 7; i >= 0; i--) {
-            int c = x.read(key, i);
-            if (c >= 0) {
-                s.append((char) c);
-            }
-        }
-        return s.toString();
     }
 
     private static void normalised(int flags, String bytes, String want, int held) {
@@ -1010,14 +948,11 @@ public final class PromiseRuns {
             PromiseRuns::property, PromiseRuns::byteAt, PromiseRuns::possible, PromiseRuns::read,
             PromiseRuns::find, PromiseRuns::told, PromiseRuns::ifSegment, PromiseRuns::replay,
             PromiseRuns::evasions, PromiseRuns::nearest, PromiseRuns::undo, PromiseRuns::digest};
-        for (Runnable p : promises) {
-            promise++;
-            p.run();
+        for (int i = 0; i < promises.length; i++) {
+            says("promise " + (i + 1));
+            promises[i].run();
         }
-        System.out.println(calls + " answers of " + promise + " promises, " + wrong + " not as due");
-        if (wrong != 0) {
-            System.exit(1);
-        }
+        end();
     }
 
     private static void segments() {
