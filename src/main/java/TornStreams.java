@@ -211,7 +211,7 @@ public final class TornStreams {
             case 3: return now.settings[FLAGS];
             case 4: return now.settings[BOUND];
             case 5: return now.flowCount;
-            case 6: return now.finds.remembered();
+            case 6: return now.finds.remembered;
             case 7: return now.finds.sureCount;
             case 8: return now.finds.doubtfulCount;
             case 9: return now.forgottenCount;
@@ -293,8 +293,7 @@ public final class TornStreams {
         for (int i = 0; i < now.flowCount && i < FLOWS; i++) {
             h = mixedWithFlow(h, now.flows[i]);
         }
-        int remembered = now.finds.remembered();
-        for (int i = 0; i < remembered; i++) {
+        for (int i = 0; i < now.finds.remembered; i++) {
             for (int what = 0; what < FIND_PROPERTIES; what++) {
                 h = mixed(h, now.finds.tell(i, what));
             }
@@ -576,6 +575,9 @@ public final class TornStreams {
     private static final class Finds {
         int sureCount = 0;
         int doubtfulCount = 0;
+        int remembered = 0;
+        // The place of the next find; the latest ones stand before it, and go on around the end.
+        private int slot = 0;
         private final int[] keys = new int[FINDS];
         private final int[] words = new int[FINDS];
         private final int[] firsts = new int[FINDS];
@@ -584,6 +586,8 @@ public final class TornStreams {
         void copyFrom(Finds other) {
             sureCount = other.sureCount;
             doubtfulCount = other.doubtfulCount;
+            remembered = other.remembered;
+            slot = other.slot;
             System.arraycopy(other.keys, 0, keys, 0, FINDS);
             System.arraycopy(other.words, 0, words, 0, FINDS);
             System.arraycopy(other.firsts, 0, firsts, 0, FINDS);
@@ -594,16 +598,15 @@ public final class TornStreams {
             return sureCount + doubtfulCount;
         }
 
-        int remembered() {
-            return Math.min(made(), FINDS);
-        }
-
         void add(int key, int word, int first, int end) {
-            int slot = (sureCount + doubtfulCount) % FINDS;
             keys[slot] = key;
             words[slot] = word;
             firsts[slot] = first;
             ends[slot] = end;
+            slot = slot + 1 < FINDS ? slot + 1 : 0;
+            if (remembered < FINDS) {
+                remembered++;
+            }
             if (first == NONE) {
                 doubtfulCount++;
             } else {
@@ -612,15 +615,15 @@ public final class TornStreams {
         }
 
         int tell(int i, int what) {
-            if (i >= remembered()) {
+            if (i < 0 || i >= remembered) {
                 return NONE;
             }
-            int slot = (made() - 1 - i) % FINDS;
+            int at = slot > i ? slot - 1 - i : slot - 1 - i + FINDS;
             switch (what) {
-                case 0: return keys[slot];
-                case 1: return words[slot];
-                case 2: return firsts[slot];
-                default: return ends[slot];
+                case 0: return keys[at];
+                case 1: return words[at];
+                case 2: return firsts[at];
+                default: return ends[at];
             }
         }
     }

@@ -490,9 +490,11 @@ public final class PromiseEdges extends Check {
         due("no word any more", x.nearest(0), NONE);
         // Behind a gap the possible nodes are nearer, but a find of them is doubtful.
         x = withSettings(0, 0, 1, "abcdefgh");
-        segment(x, 1, 6, "g-");
-        segment(x, 1, 15, "ab");
-        due("from the node, not from the possible ones", x.nearest(1), 6);
+        segment(x, 1, 5, "fg");
+        due("possible nodes, one of them abcdefg", x.possible(1), 129);
+        due("from the node, not from the possible ones", x.nearest(1), 8);
+        segment(x, 1, 7, "-ab");
+        due("from ab", x.nearest(1), 6);
     }
 
     private static void undo() {
