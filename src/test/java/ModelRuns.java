@@ -21,6 +21,8 @@ public final class ModelRuns {
 
     private static final class Run {
         private static final String[] TEXTS = {"ab", "abc ", "abAB", "ab%61", "%6124ab", "ab-. ", "abcdefAC%469120-. x"};
+        private static final String[] FEW_LETTERS = {"a", "ab", "ab", "abc"};
+        private static final String[] ALL_LETTERS = {"abyz", "abcdefghijklmnopqrstuvwxyz"};
         private static final int[] FAR = {Integer.MIN_VALUE, Integer.MAX_VALUE, -1, -2, 6, 40, 41, 100, 1000, 1101, 1 << 20};
 
         private final int number;
@@ -29,6 +31,8 @@ public final class ModelRuns {
         private final Model model = new Model();
         private final StringBuilder trace = new StringBuilder();
         private final String alphabet;
+        private final String[] letters;
+        private final int wordLength;
         private final int keys;
         private final int spread;
         private int calls = 0;
@@ -37,6 +41,9 @@ public final class ModelRuns {
             this.number = number;
             dice = new Dice(number);
             alphabet = TEXTS[dice.below(TEXTS.length)];
+            // With few letters there are many finds, with all of them there are many nodes.
+            letters = number % 4 == 3 ? ALL_LETTERS : FEW_LETTERS;
+            wordLength = number % 4 == 3 ? 8 : 4;
             keys = 1 + dice.below(7);
             spread = 1 + dice.below(30);
         }
@@ -91,7 +98,7 @@ public final class ModelRuns {
         private void act() {
             switch (dice.below(24)) {
                 case 0:
-                    write(dice.below(3) == 0 ? "a" : dice.below(2) == 0 ? "ab" : "abc", dice.below(4) == 0 ? 9 : 4);
+                    write(letters[dice.below(letters.length)], dice.below(4) == 0 ? 9 : wordLength);
                     int w = arg(6);
                     same("define(" + w + ")", real.define(w), model.define(w));
                     break;
