@@ -13,7 +13,9 @@ public final class TornStreams {
     // No byte has an index from here on, so no flow goes farther.
     private static final int BEHIND_ALL = OFFSETS + TEXT_LENGTH;
     private static final int FLOWS = 4, PIECES = 6, LOGGED = 10;
-    private static final int FINDS = 30, RECENT = 8, STATES = 4;
+    private static final int FINDS = 30, STATES = 4;
+    // As it is a power of two, a number and this mask make a place, whatever the number is.
+    private static final int RECENT = 8, RECENT_MASK = RECENT - 1;
     private static final int NOWHERE = -1;
 
     private static final int POLICY = 0, FLAGS = 1, BOUND = 2;
@@ -48,7 +50,7 @@ public final class TornStreams {
         if (c < LOWEST_BYTE || c > HIGHEST_BYTE) {
             return BAD;
         }
-        if (textLength >= TEXT_LENGTH) {
+        if (textLength < 0 || textLength >= TEXT_LENGTH) {
             return FULL;
         }
         text[textLength] = (byte) c;
@@ -379,7 +381,7 @@ public final class TornStreams {
     }
 
     private void record() {
-        if (pastCount >= STATES) {
+        if (pastCount < 0 || pastCount >= STATES) {
             dropOldest();
         }
         past[pastCount].copyFrom(now);
@@ -451,7 +453,14 @@ public final class TornStreams {
         }
 
         int nextOf(int node, int letter) {
+            if (node < 0 || node >= NODES || letter < 0 || letter >= LETTERS) {
+                return 0;
+            }
             return nexts[node * LETTERS + letter];
+        }
+
+        int wordsOf(int node) {
+            return node >= 0 && node < NODES ? wordSets[node] : 0;
         }
 
         // The children of nodes in their order, by ascending letters, come in the order of the numbers.
@@ -507,13 +516,13 @@ public final class TornStreams {
         // All shorter nodes have been linked already, so what is taken over from them is whole.
         private void link(int node) {
             int parent = parents[node];
-            int fail = parent == 0 ? 0 : nextOf(fails[parent], lastLetters[node]);
+            int fail = parent > 0 && parent < node ? nextOf(fails[parent], lastLetters[node]) : 0;
             fails[node] = fail;
-            wordSets[node] |= wordSets[fail];
+            wordSets[node] |= wordsOf(fail);
             for (int letter = 0; letter < LETTERS; letter++) {
                 int at = node * LETTERS + letter;
                 if (nexts[at] == 0) {
-                    nexts[at] = nexts[fail * LETTERS + letter];
+                    nexts[at] = nextOf(fail, letter);
                 }
             }
         }
@@ -576,7 +585,7 @@ public final class TornStreams {
         int sureCount = 0;
         int doubtfulCount = 0;
         int remembered = 0;
-        // The place of the next find; the latest ones stand before it, and go on around the end.
+        // The latest finds stand before it, and go on around the end.
         private int slot = 0;
         private final int[] keys = new int[FINDS];
         private final int[] words = new int[FINDS];
@@ -599,11 +608,12 @@ public final class TornStreams {
         }
 
         void add(int key, int word, int first, int end) {
-            keys[slot] = key;
-            words[slot] = word;
-            firsts[slot] = first;
-            ends[slot] = end;
-            slot = slot + 1 < FINDS ? slot + 1 : 0;
+            int at = slot >= 0 && slot < FINDS ? slot : 0;
+            keys[at] = key;
+            words[at] = word;
+            firsts[at] = first;
+            ends[at] = end;
+            slot = at + 1;
             if (remembered < FINDS) {
                 remembered++;
             }
@@ -619,6 +629,9 @@ public final class TornStreams {
                 return NONE;
             }
             int at = slot > i ? slot - 1 - i : slot - 1 - i + FINDS;
+            if (at < 0 || at >= FINDS) {
+                return NONE;
+            }
             switch (what) {
                 case 0: return keys[at];
                 case 1: return words[at];
@@ -643,7 +656,7 @@ public final class TornStreams {
 
         void copyFrom(Segments other) {
             count = 0;
-            for (int i = 0; i < other.count; i++) {
+            for (int i = 0; i < other.count && i < other.starts.length; i++) {
                 add(other.bytes, i * TEXT_LENGTH, other.lengths[i], other.starts[i]);
             }
         }
@@ -823,8 +836,8 @@ public final class TornStreams {
                 return;
             }
             isBehindBlank = character == ' ';
-            characters[readCount % RECENT] = character;
-            firstIndices[readCount % RECENT] = first;
+            characters[readCount & RECENT_MASK] = character;
+            firstIndices[readCount & RECENT_MASK] = first;
             readCount++;
             if (!isLetter(character)) {
                 restart();
@@ -832,7 +845,7 @@ public final class TornStreams {
             }
             node = automaton.nextOf(node, character - 'a');
             possible = automaton.nextSet(possible, character - 'a');
-            int sure = automaton.wordSets[node];
+            int sure = automaton.wordsOf(node);
             int doubtful = automaton.wordsOfSet(possible) & ~sure;
             for (int w = 0; w < WORDS; w++) {
                 if ((sure >> w & 1) != 0) {
@@ -857,12 +870,11 @@ public final class TornStreams {
         }
 
         private int firstIndexOf(int length) {
-            int place = readCount - length;
-            return place < 0 ? 0 : firstIndices[place % RECENT];
+            return firstIndices[readCount - length & RECENT_MASK];
         }
 
         int recentCharacter(int i) {
-            return i < readCount ? characters[(readCount - 1 - i) % RECENT] : NONE;
+            return i < readCount ? characters[readCount - 1 - i & RECENT_MASK] : NONE;
         }
 
         private static int hexadecimal(int b) {
@@ -1088,10 +1100,12 @@ public final class TornStreams {
 
         private Flow movedToEnd(int place) {
             Flow moved = flows[place];
+            int to = place;
             for (int i = place + 1; i < flowCount && i < FLOWS; i++) {
                 flows[i - 1] = flows[i];
+                to = i;
             }
-            flows[flowCount - 1] = moved;
+            flows[to] = moved;
             return moved;
         }
     }
